@@ -232,14 +232,14 @@ public final class RelayMouse {
         if (!SmallFloors.isSmall(w, h) || what < 0 || what > 1) {
             return NONE;
         }
-        return smallFloors.holding(orders, w, h, what);
+        return smallFloors.heldBy(orders, w, h, what);
     }
 
     public int longest(int w, int h, int what) {
         if (!SmallFloors.isSmall(w, h) || what < 0 || what > 2) {
             return NONE;
         }
-        return smallFloors.slowest(orders, w, h, what);
+        return smallFloors.longestBy(orders, w, h, what);
     }
 
     public int needs(int yes, int w, int h) {
@@ -569,7 +569,7 @@ public final class RelayMouse {
         }
     }
 
-    /** The lines of the rules: the tests of each as masks over the mouse's signs, and its acts. */
+    /** The lines of the rules: the tests of each as sets of the mouse's signs, and its acts. */
     private static final class Rules {
         static final int MOST_LINES = 30;
         static final int MOST_ACTS = 12;
@@ -609,8 +609,9 @@ public final class RelayMouse {
         int lines;
         final int[] acts = new int[MOST_LINES * MOST_ACTS];
         final int[] actsEnd = new int[MOST_LINES];
+        // Signs that a line asks for, and those of them that must hold; the others mustn't.
+        private final int[] asked = new int[MOST_LINES];
         private final int[] wanted = new int[MOST_LINES];
-        private final int[] unwanted = new int[MOST_LINES];
         private final int[] leastCount = new int[MOST_LINES];
         private final int[] countBelow = new int[MOST_LINES];
 
@@ -622,8 +623,8 @@ public final class RelayMouse {
             if (lines >= MOST_LINES) {
                 return;
             }
+            asked[lines] = 0;
             wanted[lines] = 0;
-            unwanted[lines] = 0;
             leastCount[lines] = 0;
             countBelow[lines] = MOST_COUNT + 1;
             actsEnd[lines] = lines * MOST_ACTS;
@@ -635,9 +636,8 @@ public final class RelayMouse {
             if (line < 0) {
                 return;
             }
-            if (not) {
-                unwanted[line] |= 1 << sign;
-            } else {
+            asked[line] |= 1 << sign;
+            if (!not) {
                 wanted[line] |= 1 << sign;
             }
         }
@@ -665,8 +665,7 @@ public final class RelayMouse {
 
         int lineFor(int signs, int counter) {
             for (int i = 0; i < lines; i++) {
-                if ((signs & wanted[i]) == wanted[i] && (signs & unwanted[i]) == 0
-                        && counter >= leastCount[i] && counter < countBelow[i]) {
+                if (((signs ^ wanted[i]) & asked[i]) == 0 && counter >= leastCount[i] && counter < countBelow[i]) {
                     return i;
                 }
             }
@@ -675,15 +674,15 @@ public final class RelayMouse {
 
         boolean usesYes(int yes) {
             int sign = 1 << (SIGN_YES + yes);
-            boolean asked = false;
+            boolean tested = false;
             boolean given = false;
             for (int line = 0; line < lines; line++) {
-                asked |= ((wanted[line] | unwanted[line]) & sign) != 0;
+                tested |= (asked[line] & sign) != 0;
                 for (int i = line * MOST_ACTS; i < actsEnd[line]; i++) {
                     given |= acts[i] == actOf(SET, yes);
                 }
             }
-            return asked && given;
+            return tested && given;
         }
     }
 
@@ -910,7 +909,7 @@ public final class RelayMouse {
         static final int SIGNAL_BELL = MOST_RELAYS + 1;
         static final int SIGNAL_ONE = MOST_RELAYS + 2;
         static final int SIGNAL_TWO = MOST_RELAYS + 3;
-        // A code below this one takes that signal; these join what was taken.
+        // A code below this one takes that signal; these join what was taken, the higher the faster they bind.
         static final int SIGNALS = MOST_RELAYS + 4;
         static final int JOIN_OR = SIGNALS;
         static final int JOIN_AND = SIGNALS + 1;
@@ -1124,7 +1123,6 @@ public final class RelayMouse {
                 text.refuse(1, text.place);
             } else if (countKnot()) {
                 takeOperand(input ? Net.SIGNAL_BUMP + word - Net.BUMP : NAMED);
-                joinDownTo(Net.JOIN_NOT);
             }
             return false;
         }
@@ -1153,7 +1151,6 @@ public final class RelayMouse {
             if (waits > 0) {
                 waits--;
             }
-            joinDownTo(Net.JOIN_NOT);
         }
 
         /** Whether an operand is due behind the token. */
@@ -1189,7 +1186,7 @@ public final class RelayMouse {
             }
         }
 
-        /** What waits and binds as fast as this, or faster, has all its operands: up to a bracket. */
+        /** What waits behind the latest bracket and binds as fast as this code, or faster, has its operands now. */
         private void joinDownTo(int code) {
             while (waits > 0 && waiting[waits - 1] >= code && waiting[waits - 1] != BRACKET) {
                 waits--;
@@ -1709,11 +1706,17 @@ public final class RelayMouse {
         private static final int MOST = 3;
         private static final int SIZES = 4;
         private static final int SHORT_RUN = 100;
+        // Twelve walls can stand or not between nine squares.
+        private static final int MOST_STARTS = 4096 * 9;
 
         private final Floor floor = new Floor();
         private final Mouse mouse = new Mouse();
         private final Mouse other = new Mouse();
-        // What was found by the rules told now: a row for each size, since one asks for its parts one by one.
+        // Where a run starts: the set of walls, the square, and all squares from which one can come then.
+        private int set;
+        private int square;
+        private long able;
+        // What was found by the rules told now, a place for each size: one asks for its parts call by call.
         private int heldKnown;
         private int longestKnown;
         private final int[] heldWalls = new int[SIZES];
@@ -1730,15 +1733,44 @@ public final class RelayMouse {
             return isSmall(w, h) ? (w - LEAST) * 2 + h - LEAST : 0;
         }
 
+        /** Other rules are told. */
         void forget() {
             heldKnown = 0;
             longestKnown = 0;
         }
 
-        int holding(Rules rules, int w, int h, int what) {
+        private void layFirst(int w, int h) {
+            floor.lay(w, h);
+            set = 0;
+            square = NONE;
+            able = floor.reach();
+        }
+
+        /** Goes on to the next square from which one can come, if need be on the next floor; false: there is none. */
+        private boolean nextStart() {
+            int sets = 1 << floor.wallNumbers();
+            for (int i = 0; i < MOST_STARTS; i++) {
+                square++;
+                if (square >= floor.squares) {
+                    square = 0;
+                    set++;
+                    floor.raiseWalls(set);
+                    able = floor.reach();
+                }
+                if (set >= sets) {
+                    return false;
+                }
+                if ((able >>> square & 1L) != 0L) {
+                    return true;
+                }
+            }
+            return false;
+        }
+
+        int heldBy(Rules rules, int w, int h, int what) {
             int size = sizeOf(w, h);
             if ((heldKnown >> size & 1) == 0) {
-                floor.lay(w, h);
+                layFirst(w, h);
                 findHeld(rules, size);
                 heldKnown |= 1 << size;
             }
@@ -1748,25 +1780,20 @@ public final class RelayMouse {
         private void findHeld(Rules rules, int size) {
             heldWalls[size] = NEVER;
             heldSquares[size] = NEVER;
-            int sets = 1 << floor.wallNumbers();
-            for (int set = 0; set < sets; set++) {
-                floor.raiseWalls(set);
-                long able = floor.reach();
-                for (int square = 0; square < floor.squares; square++) {
-                    mouse.setDownWiped(square);
-                    if ((able >>> square & 1L) != 0L && mouse.arrive(rules, floor, SHORT_RUN) == NEVER) {
-                        heldWalls[size] = set;
-                        heldSquares[size] = square;
-                        return;
-                    }
+            for (int i = 0; i < MOST_STARTS && nextStart(); i++) {
+                mouse.setDownWiped(square);
+                if (mouse.arrive(rules, floor, SHORT_RUN) == NEVER) {
+                    heldWalls[size] = set;
+                    heldSquares[size] = square;
+                    return;
                 }
             }
         }
 
-        int slowest(Rules rules, int w, int h, int what) {
+        int longestBy(Rules rules, int w, int h, int what) {
             int size = sizeOf(w, h);
             if ((longestKnown >> size & 1) == 0) {
-                floor.lay(w, h);
+                layFirst(w, h);
                 findLongest(rules, size);
                 longestKnown |= 1 << size;
             }
@@ -1778,18 +1805,13 @@ public final class RelayMouse {
 
         private void findLongest(Rules rules, int size) {
             longestTicks[size] = NONE;
-            int sets = 1 << floor.wallNumbers();
-            for (int set = 0; set < sets; set++) {
-                floor.raiseWalls(set);
-                long able = floor.reach();
-                for (int square = 0; square < floor.squares; square++) {
-                    mouse.setDownWiped(square);
-                    int ticks = (able >>> square & 1L) != 0L ? mouse.arrive(rules, floor, SHORT_RUN) : NEVER;
-                    if (ticks > longestTicks[size]) {
-                        longestTicks[size] = ticks;
-                        longestWalls[size] = set;
-                        longestSquares[size] = square;
-                    }
+            for (int i = 0; i < MOST_STARTS && nextStart(); i++) {
+                mouse.setDownWiped(square);
+                int ticks = mouse.arrive(rules, floor, SHORT_RUN);
+                if (ticks > longestTicks[size]) {
+                    longestTicks[size] = ticks;
+                    longestWalls[size] = set;
+                    longestSquares[size] = square;
                 }
             }
         }
@@ -1799,23 +1821,18 @@ public final class RelayMouse {
             if (!rules.usesYes(yes)) {
                 return false;
             }
-            floor.lay(w, h);
+            layFirst(w, h);
             other.barred = 1 << yes;
-            int sets = 1 << floor.wallNumbers();
-            for (int set = 0; set < sets; set++) {
-                floor.raiseWalls(set);
-                long able = floor.reach();
-                for (int square = 0; square < floor.squares; square++) {
-                    if ((able >>> square & 1L) != 0L && partWays(square, rules)) {
-                        return true;
-                    }
+            for (int i = 0; i < MOST_STARTS && nextStart(); i++) {
+                if (partWays(rules)) {
+                    return true;
                 }
             }
             return false;
         }
 
         /** Whether the two mice, one of them barred from a yes, don't run alike; alike they end alike. */
-        private boolean partWays(int square, Rules rules) {
+        private boolean partWays(Rules rules) {
             mouse.setDownWiped(square);
             other.setDownWiped(square);
             for (int ticks = 0; ticks < SHORT_RUN && mouse.square != floor.bellSquare; ticks++) {

@@ -35,6 +35,10 @@ public final class DifferentialTest {
     }
 
     private void go() {
+        if (random.nextInt(4) != 0) {
+            tellRules();
+            tellNet();
+        }
         for (int i = 0; i < 140; i++) {
             step();
         }

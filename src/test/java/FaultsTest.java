@@ -381,5 +381,11 @@ public final class FaultsTest {
         String eight = "go=(one)and(one)and(one)and(one);left=(one)or(one)or(one)or(one);right=";
         net(eight + "(one);", 2, at(eight.length()));
         net(eight + "one(", 1, at(eight.length() + 3));
+        RelayMouse x = new RelayMouse();
+        for (int i = 0; i < 3; i++) {
+            check.due("each net has its own brackets", Check.net(x, "go=((((one))));left=((((one))));"), 0);
+            check.due("each net has its own outputs", x.fault(0), 0);
+            check.due("each net has its own knots", x.count(3), 2);
+        }
     }
 }

@@ -254,8 +254,8 @@ public final class PromisesTest {
         due("6 no line", x.mouse(4), NONE);
         due("6 no walls", x.count(4), 0);
         due("6 the last is the bell", x.count(5), 11);
-        due("6 nothing to wipe", x.wipe(), 0);
         due("6 no relay holds but stuck ones", x.relays(), 2);
+        due("6 nothing to wipe", x.wipe(), 0);
         due("6 stuck ones stay", x.stuck(), 2);
         due("6 no images", x.count(6), 0);
         due("6 rules stay", x.count(1), 1);
@@ -463,6 +463,18 @@ public final class PromisesTest {
         Check.rules(x, "if mode 0 mode 1 do go; if count 3 not count 2 do go; if not count 0 do go; do right;");
         x.tick(1);
         due("lines that never hold", x.mouse(4), 3);
+        for (int mode = 0; mode < 10; mode++) {
+            x.lift(4, 0);
+            Check.rules(x, "do mode " + mode + ";");
+            x.tick(1);
+            for (int other = 0; other < 10; other++) {
+                Check.rules(x, "if mode " + other + " do keep;");
+                due("mode " + other + " at " + mode, x.tick(1), other == mode ? 1 : 0);
+            }
+            testIs("at mode " + mode, on(3, 2), "bump", true);
+            Check.rules(x, "if bump do keep; if bell do keep; if not way do keep; if yes 2 do keep;");
+            due("no other sign at mode " + mode, x.tick(1), 0);
+        }
     }
 
     private void run() {
@@ -739,10 +751,39 @@ public final class PromisesTest {
         due("19 behind tick 100", x.needs(0, 2, 2), 1);
         Check.rules(x, "if not count 99 do add; if yes 0 do left; do set 0;");
         due("19 behind tick 101", x.needs(0, 2, 2), 0);
+        needsSomewhere(x);
         int[][] wrong = {{-1, 2, 2}, {3, 2, 2}, {0, 1, 2}, {0, 4, 2}, {0, 2, 1}, {0, 2, 4}, {BIG, 2, 2}, {0, LOW, BIG}};
         for (int[] at : wrong) {
             due("19 wrong", x.needs(at[0], at[1], at[2]), NONE);
         }
+    }
+
+    /** Rules that need a YES on some floors or from some squares alone. */
+    private void needsSomewhere(RelayMouse x) {
+        Check.rules(x, "if mode 0 do right go mode 1; if mode 1 not bump do set 0 mode 2; if mode 2 yes 0 do left;");
+        for (int h = 2; h <= 3; h++) {
+            due("19 two squares wide", x.needs(0, 2, h), 0);
+            due("19 three squares wide", x.needs(0, 3, h), 1);
+            due("19 two squares wide again", x.needs(0, 2, h), 0);
+        }
+        Check.rules(x, "if mode 0 do back go mode 1; if mode 1 not bump do set 0 mode 2; if mode 2 yes 0 do left;");
+        for (int w = 2; w <= 3; w++) {
+            due("19 two squares high", x.needs(0, w, 2), 0);
+            due("19 three squares high", x.needs(0, w, 3), 1);
+        }
+        Check.rules(x, "if mode 0 do back mode 1; if mode 1 bump do back mode 2; if mode 2 bump do set 0 mode 3;"
+            + "if mode 3 yes 0 do left;");
+        due("19 only with a wall", x.needs(0, 2, 2), 1);
+        Check.rules(x, "if mode 0 bump do right mode 6; if mode 6 bump do right mode 1;"
+            + "if mode 1 not bump do right go mode 2; if mode 2 do back mode 7;"
+            + "if mode 7 not bump do set 1 right go mode 3; if mode 3 not yes 1 do left mode 4;"
+            + "if mode 4 not bump do set 0 mode 5; if mode 5 yes 0 do left;");
+        due("19 only without any wall", x.needs(0, 2, 2), 1);
+        Check.rules(x, "if mode 0 bump do left mode 1; if mode 1 bump do back mode 2; if mode 2 not bump do go mode 3;"
+            + "if mode 3 do set 0 mode 4; if mode 4 yes 0 do left;");
+        due("19 only from square 0", x.needs(0, 2, 2), 1);
+        Check.rules(x, "if yes 0 do left; if bump count 3 do set 0; if bump do right add;");
+        due("19 only from where one can't come", x.needs(0, 3, 3), 0);
     }
 
     private void knows() {

@@ -1168,6 +1168,14 @@ public final class PromisesTest {
         due("29 a wall that stands is taken away", x.trial(1, 0), 5);
         due("29 one is left", x.trial(1, 1), 1);
         due("29 all is as it was", x.look(4, 2), 5);
+        x.bell(1);
+        int[][] rim = {{3, 2}, {5, 2}, {5, 1}, {2, 1}, {0, 0}, {3, 3}};
+        for (int[] at : rim) {
+            x.lift(at[0], at[1]);
+            due("29 alike at the rim", x.suspects(1, 1), 3);
+            due("29 the rim can't be moved", x.trial(1, 0), 0);
+            due("29 two are left", x.trial(1, 1), 2);
+        }
     }
 
     private void keep() {

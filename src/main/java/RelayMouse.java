@@ -647,10 +647,11 @@ public final class RelayMouse {
             if (line < 0) {
                 return;
             }
-            if (not) {
-                countBelow[line] = Math.min(countBelow[line], number);
-            } else {
-                leastCount[line] = Math.max(leastCount[line], number);
+            if (not && number < countBelow[line]) {
+                countBelow[line] = number;
+            }
+            if (!not && number > leastCount[line]) {
+                leastCount[line] = number;
             }
         }
 
@@ -1096,8 +1097,11 @@ public final class RelayMouse {
                 } else if (open == 0 && text.isSign(';')) {
                     joinDownTo(Net.JOIN_OR);
                     return;
+                } else if (open > 0 && text.isSign(')')) {
+                    closeBracket();
                 } else {
-                    operandDue = readJoint();
+                    readJoint();
+                    operandDue = true;
                 }
                 if (text.fault == 0) {
                     text.advance();
@@ -1153,12 +1157,7 @@ public final class RelayMouse {
             }
         }
 
-        /** Whether an operand is due behind the token. */
-        private boolean readJoint() {
-            if (open > 0 && text.isSign(')')) {
-                closeBracket();
-                return false;
-            }
+        private void readJoint() {
             int word = text.word;
             if (word != Net.OR && word != Net.AND) {
                 text.refuse(1, text.place);
@@ -1167,7 +1166,6 @@ public final class RelayMouse {
                 joinDownTo(code);
                 await(code);
             }
-            return true;
         }
 
         private boolean countKnot() {
@@ -1341,9 +1339,13 @@ public final class RelayMouse {
             return number / inRow * width + number % inRow;
         }
 
+        private int sideOfWall(int number) {
+            return number < height * (width - 1) ? RIGHT : DOWN;
+        }
+
         void moveWall(int number) {
             int square = squareOfWall(number);
-            int side = number < height * (width - 1) ? RIGHT : DOWN;
+            int side = sideOfWall(number);
             putWall(square, side, !isWalled(square, side));
         }
 
@@ -1352,7 +1354,7 @@ public final class RelayMouse {
             clearWalls();
             for (int number = 0; number < wallNumbers(); number++) {
                 if ((set >> number & 1) != 0) {
-                    moveWall(number);
+                    putWall(squareOfWall(number), sideOfWall(number), true);
                 }
             }
         }
@@ -1635,10 +1637,11 @@ public final class RelayMouse {
             holding = (wouldHold & ~jammed) | jammedOn;
         }
 
+        /** Just these are stuck, and no other relay holds. */
         void jamAll(int which, int on) {
             jammed = which;
             jammedOn = on & which;
-            release();
+            holding = jammedOn;
         }
 
         void jamLike(Coils other) {
@@ -1917,23 +1920,29 @@ public final class RelayMouse {
             fewestLeft = suspectCount() + 1;
             for (int number = 0; number < floor.wallNumbers(); number++) {
                 floor.moveWall(number);
-                recordTrack(t);
-                int left = 0;
-                for (int relay = 0; relay < net.relays; relay++) {
-                    int bit = 1 << relay;
-                    if ((suspectsOff & bit) != 0 && keepsTrack(bit, 0, t)) {
-                        left++;
-                    }
-                    if ((suspectsOn & bit) != 0 && keepsTrack(bit, bit, t)) {
-                        left++;
-                    }
-                }
+                int left = suspectsLeft(t);
                 floor.moveWall(number);
                 if (left < fewestLeft) {
                     fewestLeft = left;
                     bestWall = number;
                 }
             }
+        }
+
+        /** How many suspects still do as the net; they are counted no further than to the fewest so far. */
+        private int suspectsLeft(int t) {
+            recordTrack(t);
+            int left = 0;
+            for (int relay = 0; relay < net.relays && left < fewestLeft; relay++) {
+                int bit = 1 << relay;
+                if ((suspectsOff & bit) != 0 && keepsTrack(bit, 0, t)) {
+                    left++;
+                }
+                if ((suspectsOn & bit) != 0 && keepsTrack(bit, bit, t)) {
+                    left++;
+                }
+            }
+            return left;
         }
 
         private void recordTrack(int t) {

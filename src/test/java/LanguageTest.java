@@ -1,3 +1,6 @@
+import java.io.File;
+import java.io.PrintWriter;
+import java.io.StringWriter;
 import java.lang.reflect.Constructor;
 import java.lang.reflect.Field;
 import java.lang.reflect.Method;
@@ -6,10 +9,16 @@ import java.nio.charset.StandardCharsets;
 import java.nio.file.Files;
 import java.nio.file.Path;
 import java.util.ArrayList;
+import java.util.HashMap;
 import java.util.HashSet;
 import java.util.List;
+import java.util.Map;
+import java.util.Optional;
 import java.util.Set;
 import java.util.TreeSet;
+import java.util.regex.Matcher;
+import java.util.regex.Pattern;
+import java.util.spi.ToolProvider;
 
 /** What can be told by looking at the class and its source of the rules in ../shared/LANGUAGE.md. */
 public final class LanguageTest {
@@ -25,13 +34,20 @@ public final class LanguageTest {
         "Exact", "import java.util.*", "System.out", "System.nano", "System.current", "Random", "Thread", "equals",
         "hashCode", "toString", "getMessage", "float", "double", "static {", "protected", "\t"};
 
+    private static final Set<String> LIBRARY = Set.of("java/lang/Object.\"<init>\"",
+        "java/lang/IndexOutOfBoundsException.\"<init>\"", "java/util/NoSuchElementException.\"<init>\"",
+        "java/lang/String.length", "java/lang/String.charAt", "java/lang/Integer.bitCount", "java/lang/Long.bitCount",
+        "java/lang/Math.min");
+
     private final Check check = new Check("LanguageTest");
+    private final Map<String, Set<String>> calls = new HashMap<>();
 
     public static void main(String[] args) throws Exception {
         LanguageTest test = new LanguageTest();
         test.face();
         test.classes();
         test.source();
+        test.calls();
         test.check.end();
     }
 
@@ -135,5 +151,61 @@ public final class LanguageTest {
                 }
             }
         }
+    }
+
+    /** Rules 4, 6, 8 and 11, seen in what the compiler made: what is called, how deep, and nothing that catches. */
+    private void calls() throws Exception {
+        Optional<ToolProvider> javap = ToolProvider.findFirst("javap");
+        if (javap.isEmpty()) {
+            System.out.println("LanguageTest: no javap here, so what is called isn't looked at");
+            return;
+        }
+        File place = new File(RelayMouse.class.getProtectionDomain().getCodeSource().getLocation().toURI());
+        for (File file : place.listFiles()) {
+            if (file.getName().matches("RelayMouse(\\$\\w+)?\\.class")) {
+                StringWriter text = new StringWriter();
+                javap.get().run(new PrintWriter(text), new PrintWriter(text), "-c", "-p", file.getPath());
+                readCalls(file.getName().replace(".class", ""), text.toString());
+            }
+        }
+        check.due("methods were found", calls.size() > 100, true);
+        for (Method method : RelayMouse.class.getDeclaredMethods()) {
+            String name = "RelayMouse." + method.getName();
+            check.due(name + " was found", calls.containsKey(name), true);
+            check.due(name + " calls at most eight deep: " + depth(name, 0), depth(name, 0) <= 8, true);
+        }
+    }
+
+    private void readCalls(String className, String text) {
+        check.due(className + " has no lambda and joins no texts by +", text.contains("invokedynamic"), false);
+        check.due(className + " catches nothing", text.contains("Exception table"), false);
+        Pattern called = Pattern.compile("// (?:Interface)?Method (\\S+?):");
+        String method = "";
+        for (String line : text.split("\n")) {
+            if (line.matches("  \\S.*\\(.*\\).*;")) {
+                String head = line.substring(0, line.indexOf('('));
+                String name = head.substring(head.lastIndexOf(' ') + 1);
+                method = className + "." + (name.equals(className) ? "\"<init>\"" : name);
+                calls.put(method, new HashSet<>());
+            }
+            Matcher match = called.matcher(line);
+            if (match.find()) {
+                String callee = match.group(1).contains(".") ? match.group(1) : className + "." + match.group(1);
+                calls.get(method).add(callee);
+                check.due(method + " calls " + callee, callee.startsWith("RelayMouse") || LIBRARY.contains(callee), true);
+            }
+        }
+    }
+
+    private int depth(String method, int above) {
+        // Far beyond what is allowed: a recursion, of which there is none.
+        if (above > 40) {
+            return 1;
+        }
+        int deepest = 0;
+        for (String callee : calls.getOrDefault(method, Set.of())) {
+            deepest = Math.max(deepest, depth(callee, above + 1));
+        }
+        return deepest + 1;
     }
 }

@@ -20,7 +20,7 @@ import java.util.regex.Matcher;
 import java.util.regex.Pattern;
 import java.util.spi.ToolProvider;
 
-/** What can be told by looking at the class and its source of the rules in ../shared/LANGUAGE.md. */
+/** What can be told of the rules in ../shared/LANGUAGE.md by looking at the class, its source and what the compiler made. */
 public final class LanguageTest {
     private static final String[] FACE = {
         "int feed(int,int,int,int,int)", "int rules(int)", "int net(int)", "int fault(int)",
@@ -30,24 +30,48 @@ public final class LanguageTest {
         "int knows(int)", "int pull(int)", "int pullRun(int)", "int relays()", "int race()",
         "boolean stick(int,int)", "int stuck()", "int same(int)", "int suspects(int,int)", "int trial(int,int)",
         "boolean keep(int)", "boolean restore(int)", "int count(int)"};
-    private static final String[] FORBIDDEN = {"->", "::", "try", "catch", "finally", "synchronized", "assert",
-        "Exact", "import java.util.*", "System.out", "System.nano", "System.current", "Random", "Thread", "equals",
-        "hashCode", "toString", "getMessage", "float", "double", "static {", "protected", "\t"};
 
-    private static final Set<String> LIBRARY = Set.of("java/lang/Object.\"<init>\"",
-        "java/lang/IndexOutOfBoundsException.\"<init>\"", "java/util/NoSuchElementException.\"<init>\"",
-        "java/lang/String.length", "java/lang/String.charAt", "java/lang/Integer.bitCount", "java/lang/Long.bitCount",
-        "java/lang/Math.min");
+    /** Words that no rule allows in code, whatever stands around them. */
+    private static final String[] FORBIDDEN = {"::", "finally", "synchronized", "assert", "hashCode", "getMessage",
+        "import java.util.*", "static {", "protected", "package", "\t"};
+
+    /** Rule 4, and what the compiler itself calls for enums, records and lists of Integer. */
+    private static final Pattern LIBRARY = Pattern.compile(
+        "java/lang/(Object|Enum|Record|String|StringBuilder)\\.\"<init>\""
+        + "|java/lang/String\\.(length|charAt|isEmpty|equals|indexOf|substring|toCharArray)"
+        + "|java/lang/StringBuilder\\.(append|charAt|setCharAt|setLength|deleteCharAt|reverse|length|toString)"
+        + "|java/util/ArrayList\\.\"<init>\""
+        + "|java/util/(ArrayList|List)\\.(add|get|set|remove|size|isEmpty|clear|iterator|of)"
+        + "|java/util/Iterator\\.(hasNext|next)|java/lang/Iterable\\.iterator|java/lang/Comparable\\.compareTo"
+        + "|java/lang/Enum\\.(valueOf|ordinal)|java/lang/Integer\\.intValue"
+        + "|java/lang/(Integer|Long|Math)\\.\\w+(?<!Exact)"
+        + "|java/lang/System\\.arraycopy|java/util/Arrays\\.(copyOf|copyOfRange|fill)|\"\\[.*\"\\.clone"
+        + "|(java/lang/(IllegalState|IllegalArgument|IndexOutOfBounds|Arithmetic|UnsupportedOperation|Runtime)Exception"
+        + "|java/util/NoSuchElementException)\\.\"<init>\"");
+
+    /** Rule 6; what the machine throws itself is not to be caught, by its own name or by a class above it. */
+    private static final Pattern CAUGHT = Pattern.compile(
+        "Class java/(lang/(IllegalState|IllegalArgument|UnsupportedOperation)|util/NoSuchElement)Exception");
+
+    /** Rule 3. */
+    private static final Set<String> TYPES = Set.of("java.lang.String", "java.lang.StringBuilder", "java.lang.Integer",
+        "java.lang.Object", "java.util.ArrayList", "java.util.List", "java.util.Iterator");
 
     private final Check check = new Check("LanguageTest");
     private final Map<String, Set<String>> calls = new HashMap<>();
 
     public static void main(String[] args) throws Exception {
         LanguageTest test = new LanguageTest();
+        List<Class<?>> all = new ArrayList<>(List.of(RelayMouse.class.getDeclaredClasses()));
+        all.add(RelayMouse.class);
         test.face();
-        test.classes();
+        test.classes(all);
+        for (Class<?> one : all) {
+            test.methods(one);
+            test.fields(one);
+        }
         test.source();
-        test.calls();
+        test.compiled();
         test.check.end();
     }
 
@@ -63,57 +87,75 @@ public final class LanguageTest {
 
     private void face() throws Exception {
         Class<?> face = RelayMouse.class;
-        check.due("public and final", face.getModifiers(), Modifier.PUBLIC | Modifier.FINAL);
+        check.due("1 public and final", face.getModifiers(), Modifier.PUBLIC | Modifier.FINAL);
         Set<String> due = new TreeSet<>(List.of(FACE));
         Set<String> found = new TreeSet<>();
         for (Method method : face.getDeclaredMethods()) {
             if (!Modifier.isPrivate(method.getModifiers())) {
                 found.add(signature(method));
-                check.due(method + " is public and of the object", method.getModifiers(), Modifier.PUBLIC);
+                check.due("1 " + method + " is public and of the object", method.getModifiers(), Modifier.PUBLIC);
             }
         }
-        check.due("the methods " + found, found.equals(due), true);
+        check.due("1 the methods " + found, found.equals(due), true);
         for (Field field : face.getDeclaredFields()) {
             boolean constant = field.getName().equals("NONE") || field.getName().equals("NEVER");
-            check.due(field + " is private", Modifier.isPrivate(field.getModifiers()), !constant);
+            check.due("1 " + field + " is private", Modifier.isPrivate(field.getModifiers()), !constant);
         }
-        check.due("NONE", RelayMouse.NONE, -1);
-        check.due("NEVER", RelayMouse.NEVER, -2);
-        check.due("constructors", face.getDeclaredConstructors().length, 1);
+        check.due("1 NONE", RelayMouse.NONE, -1);
+        check.due("1 NEVER", RelayMouse.NEVER, -2);
+        check.due("1 constructors", face.getDeclaredConstructors().length, 1);
         Constructor<?> constructor = face.getDeclaredConstructors()[0];
-        check.due("a public constructor", constructor.getModifiers(), Modifier.PUBLIC);
+        check.due("1 a public constructor", constructor.getModifiers(), Modifier.PUBLIC);
+        check.due("1 it takes nothing", constructor.getParameterCount(), 0);
         List<Class<?>> thrown = List.of(face.getMethod("look", int.class, int.class).getExceptionTypes());
-        check.due("look throws", thrown.equals(
+        check.due("1 look throws", thrown.equals(
             List.of(IndexOutOfBoundsException.class, java.util.NoSuchElementException.class)), true);
     }
 
-    private void classes() {
+    private void classes(List<Class<?>> all) {
+        check.due("11 at most twelve classes", all.size() <= 12, true);
+        for (Class<?> inside : RelayMouse.class.getDeclaredClasses()) {
+            check.due("1 " + inside + " is static", Modifier.isStatic(inside.getModifiers()), true);
+            check.due("1 " + inside + " is private or package-visible",
+                (inside.getModifiers() & (Modifier.PUBLIC | Modifier.PROTECTED)) == 0, true);
+        }
+    }
+
+    private void methods(Class<?> one) {
         Set<String> names = new HashSet<>();
         for (String signature : FACE) {
             names.add(signature.substring(signature.indexOf(' ') + 1, signature.indexOf('(')));
         }
-        List<Class<?>> all = new ArrayList<>(List.of(RelayMouse.class.getDeclaredClasses()));
-        check.due("at most twelve classes", all.size() + 1 <= 12, true);
-        for (Class<?> inside : all) {
-            check.due(inside + " is static", Modifier.isStatic(inside.getModifiers()), true);
-            for (Method method : inside.getDeclaredMethods()) {
-                check.due(method + " bears no name of the face", names.contains(method.getName()), false);
+        for (Method method : one.getDeclaredMethods()) {
+            boolean hidden = Modifier.isPrivate(method.getModifiers());
+            check.due("1 " + method + " bears no public name", hidden && names.contains(method.getName()), false);
+            check.due("11 " + method + " has at most seven parameters", method.getParameterCount() <= 7, true);
+            check.due("3 " + method + " answers a type that is allowed",
+                method.getReturnType() == void.class || isAllowed(method.getReturnType()), true);
+            for (Class<?> type : method.getParameterTypes()) {
+                check.due("3 " + method + " takes types that are allowed", isAllowed(type), true);
             }
         }
-        all.add(RelayMouse.class);
-        for (Class<?> one : all) {
-            int fields = 0;
-            for (Field field : one.getDeclaredFields()) {
-                boolean isStatic = Modifier.isStatic(field.getModifiers());
-                fields += isStatic ? 0 : 1;
-                check.due(field + " is final, if it is static",
-                    !isStatic || Modifier.isFinal(field.getModifiers()), true);
-            }
-            check.due(one + " has at most twenty fields", fields <= 20, true);
-            for (Method method : one.getDeclaredMethods()) {
-                check.due(method + " has at most seven parameters", method.getParameterCount() <= 7, true);
-            }
+    }
+
+    private void fields(Class<?> one) {
+        int fields = 0;
+        for (Field field : one.getDeclaredFields()) {
+            boolean isStatic = Modifier.isStatic(field.getModifiers());
+            fields += isStatic ? 0 : 1;
+            check.due("3 " + field + " is of a type that is allowed", isAllowed(field.getType()), true);
+            check.due("5 " + field + " is final, if it is static",
+                !isStatic || Modifier.isFinal(field.getModifiers()), true);
         }
+        check.due("11 " + one + " has at most twenty fields", fields <= 20, true);
+    }
+
+    private static boolean isAllowed(Class<?> type) {
+        if (type.isArray()) {
+            Class<?> part = type.getComponentType();
+            return part.isArray() ? part.getComponentType().isPrimitive() : isAllowed(part);
+        }
+        return type.isPrimitive() || type.getName().startsWith("RelayMouse") || TYPES.contains(type.getName());
     }
 
     private void source() throws Exception {
@@ -124,16 +166,13 @@ public final class LanguageTest {
             String bare = line.strip();
             boolean comment = bare.startsWith("//") || bare.startsWith("*") || bare.startsWith("/*");
             code.add(comment ? "" : line);
-            check.due("a line of at most 120 signs: " + line, line.length() <= 120, true);
         }
         String all = String.join("\n", code);
         for (String word : FORBIDDEN) {
-            check.due("forbidden: " + word, all.matches("(?s).*(?<![A-Za-z])" + java.util.regex.Pattern.quote(word)
-                + "(?![a-z]).*"), false);
+            check.due("forbidden: " + word,
+                Pattern.compile("(?<![A-Za-z])" + Pattern.quote(word) + "(?![a-z])").matcher(all).find(), false);
         }
-        check.due("signs beyond 127", text.chars().anyMatch(c -> c > 127), false);
-        check.due("one import", all.split("import ").length, 2);
-        check.due("no package", all.contains("package "), false);
+        check.due("4 signs beyond 127", text.chars().anyMatch(c -> c > 127), false);
         lengths(code);
     }
 
@@ -146,15 +185,15 @@ public final class LanguageTest {
                 if (line.startsWith(margin) && !line.startsWith(margin + " ") && line.endsWith(") {")) {
                     from = i;
                 } else if (line.equals(margin + "}") && from >= 0) {
-                    check.due("at most sixty lines: " + code.get(from), i - from <= 60, true);
+                    check.due("11 at most sixty lines: " + code.get(from), i - from <= 60, true);
                     from = -1;
                 }
             }
         }
     }
 
-    /** Rules 4, 6, 8 and 11, seen in what the compiler made: what is called, how deep, and nothing that catches. */
-    private void calls() throws Exception {
+    /** What is called, how deep, and what is caught. */
+    private void compiled() throws Exception {
         Optional<ToolProvider> javap = ToolProvider.findFirst("javap");
         if (javap.isEmpty()) {
             System.out.println("LanguageTest: no javap here, so what is called isn't looked at");
@@ -162,23 +201,22 @@ public final class LanguageTest {
         }
         File place = new File(RelayMouse.class.getProtectionDomain().getCodeSource().getLocation().toURI());
         for (File file : place.listFiles()) {
-            if (file.getName().matches("RelayMouse(\\$\\w+)?\\.class")) {
+            if (file.getName().matches("RelayMouse(\\$\\w+)*\\.class")) {
                 StringWriter text = new StringWriter();
                 javap.get().run(new PrintWriter(text), new PrintWriter(text), "-c", "-p", file.getPath());
-                readCalls(file.getName().replace(".class", ""), text.toString());
+                readClass(file.getName().replace(".class", ""), text.toString());
             }
         }
-        check.due("methods were found", calls.size() > 100, true);
         for (Method method : RelayMouse.class.getDeclaredMethods()) {
             String name = "RelayMouse." + method.getName();
             check.due(name + " was found", calls.containsKey(name), true);
-            check.due(name + " calls at most eight deep: " + depth(name, 0), depth(name, 0) <= 8, true);
+            int depth = depth(name, new HashSet<>());
+            check.due("11 " + name + " calls at most eight deep: " + depth, depth <= 8, true);
         }
     }
 
-    private void readCalls(String className, String text) {
-        check.due(className + " has no lambda and joins no texts by +", text.contains("invokedynamic"), false);
-        check.due(className + " catches nothing", text.contains("Exception table"), false);
+    private void readClass(String className, String text) {
+        check.due("2, 10 " + className + " has no lambda and joins no texts by +", text.contains("invokedynamic"), false);
         Pattern called = Pattern.compile("// (?:Interface)?Method (\\S+?):");
         String method = "";
         for (String line : text.split("\n")) {
@@ -186,26 +224,34 @@ public final class LanguageTest {
                 String head = line.substring(0, line.indexOf('('));
                 String name = head.substring(head.lastIndexOf(' ') + 1);
                 method = className + "." + (name.equals(className) ? "\"<init>\"" : name);
-                calls.put(method, new HashSet<>());
+                calls.computeIfAbsent(method, key -> new HashSet<>());
             }
             Matcher match = called.matcher(line);
             if (match.find()) {
                 String callee = match.group(1).contains(".") ? match.group(1) : className + "." + match.group(1);
                 calls.get(method).add(callee);
-                check.due(method + " calls " + callee, callee.startsWith("RelayMouse") || LIBRARY.contains(callee), true);
+                check.due("4 " + method + " calls " + callee,
+                    callee.startsWith("RelayMouse") || LIBRARY.matcher(callee).matches(), true);
+            }
+            if (line.contains("athrow")) {
+                check.due("6 no throw in a constructor of " + className, method.endsWith("\"<init>\""), false);
+            }
+            if (line.matches("\\s+\\d+\\s+\\d+\\s+\\d+\\s+(any|Class .*)")) {
+                check.due("6 " + method + " catches what may be caught: " + line, CAUGHT.matcher(line).find(), true);
             }
         }
     }
 
-    private int depth(String method, int above) {
-        // Far beyond what is allowed: a recursion, of which there is none.
-        if (above > 40) {
-            return 1;
+    /** A call of a method that stands open already is a recursion, and isn't counted. */
+    private int depth(String method, Set<String> open) {
+        if (!open.add(method)) {
+            return 0;
         }
         int deepest = 0;
         for (String callee : calls.getOrDefault(method, Set.of())) {
-            deepest = Math.max(deepest, depth(callee, above + 1));
+            deepest = Math.max(deepest, depth(callee, open));
         }
+        open.remove(method);
         return deepest + 1;
     }
 }

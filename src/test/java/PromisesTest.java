@@ -747,6 +747,9 @@ public final class PromisesTest {
         due("19 behind the run", x.needs(0, 2, 2), 0);
         Check.rules(x, "if yes 0 do left; do set 0;");
         due("19 only the heading", x.needs(0, 2, 2), 1);
+        Check.rules(x, "if yes 0 do go; do set 0;");
+        due("19 only the square", x.needs(0, 2, 2), 1);
+        due("19 only the square", x.needs(0, 3, 3), 1);
         Check.rules(x, "if not count 98 do add; if yes 0 do left; do set 0;");
         due("19 behind tick 100", x.needs(0, 2, 2), 1);
         Check.rules(x, "if not count 99 do add; if yes 0 do left; do set 0;");
@@ -1060,6 +1063,16 @@ public final class PromisesTest {
         x.lift(2, 2);
         due("27 from the mouse as it is", x.same(2), 0);
         due("27 stands at the bell and its wall", x.same(3), 3);
+        Check.rules(x, "do go;");
+        Check.net(x, "");
+        x.lift(3, 1);
+        due("27 the square alone", x.same(9), 1);
+        x.lift(5, 1);
+        due("27 nor that at the rim", x.same(9), 0);
+        Check.rules(x, "do right;");
+        due("27 the heading alone", x.same(9), 1);
+        Check.rules(x, "do right keep left;");
+        due("27 a way alone", x.same(9), 1);
         Check.rules(x, "if mode 1 do left; do right;");
         Check.net(x, "right = bump or not bump;");
         due("27 mode as it is", x.same(9), 0);
@@ -1113,6 +1126,14 @@ public final class PromisesTest {
         Check.net(x, "relay a = bump; relay b = bump; keep = a; right = a or b;");
         x.stick(0, 0);
         due("28 ways don't count", x.suspects(9, 0), 0);
+        Check.net(x, "relay a = bell; relay b = not bell; go = a; left = not b;");
+        x.lift(3, 1);
+        x.stick(0, 1);
+        due("28 the square alone", x.suspects(1, 1), 1);
+        x.stick(0, 2);
+        x.stick(1, 0);
+        due("28 the heading alone", x.suspects(1, 0), 2);
+        due("28 the heading alone", x.suspects(1, 1), 0);
     }
 
     private void trial() {

@@ -3,12 +3,14 @@ import java.lang.management.ManagementFactory;
 import java.util.NoSuchElementException;
 import java.util.Random;
 
-/** Any arguments in any state: no call throws but look, as the document says, and none makes objects. */
+/** Any arguments in any state: no call throws but look, as the document says, and all calls of a run find room. */
 public final class RobustTest {
     private static final int[] EDGES = {Integer.MIN_VALUE, Integer.MIN_VALUE + 1, -65536, -501, -33, -32, -4, -3, -2, -1,
         0, 1, 2, 3, 4, 5, 6, 7, 8, 9, 19, 20, 21, 24, 25, 31, 32, 35, 36, 63, 64, 100, 499, 500, 501, 4999, 5000, 5001,
         65536, Integer.MAX_VALUE - 1, Integer.MAX_VALUE};
     private static final int CALLS = 31;
+    /** 7.3 million fields and elements, of four bytes each. */
+    private static final long ROOM = 4 * 7_300_000L;
 
     private final Check check;
     private final Random random;
@@ -96,31 +98,39 @@ public final class RobustTest {
         }
     }
 
-    /** All calls of a run live in one room, so that rows are made in the constructor alone. */
+    /** All calls of a run live in one room: the object and, whichever call is the dearest, 512 of that. */
     private static void room(Check check) {
         ThreadMXBean threads = (ThreadMXBean) ManagementFactory.getThreadMXBean();
         long thread = Thread.currentThread().getId();
-        RelayMouse x = new RelayMouse();
-        String rules = Texts.GOOD_RULES[1];
-        String net = Texts.GOOD_NETS[3];
-        long most = 0;
-        for (int round = 0; round < 3; round++) {
-            long before = threads.getThreadAllocatedBytes(thread);
-            for (int i = 0; i < 5; i++) {
-                Check.rules(x, rules);
-                Check.net(x, net);
-                x.stick(1, 1);
-                for (int call = 3; call < CALLS; call++) {
-                    call(x, call, 2, 3, 1);
-                    call(x, call, 1, 1, 0);
-                }
-            }
-            most = threads.getThreadAllocatedBytes(thread) - before;
-        }
-        check.due("bytes made by 300 calls: " + most, most < 20000, true);
         long before = threads.getThreadAllocatedBytes(thread);
-        new RelayMouse();
+        RelayMouse x = new RelayMouse();
         long made = threads.getThreadAllocatedBytes(thread) - before;
-        check.due("bytes made by a new object: " + made, made < 40000, true);
+        Check.net(x, Texts.GOOD_NETS[3]);
+        Check.rules(x, Texts.GOOD_RULES[1]);
+        x.stick(1, 1);
+        for (int call = 0; call < CALLS; call++) {
+            // What the first calls make is partly the machine's own: classes that it loads.
+            many(x, call);
+            before = threads.getThreadAllocatedBytes(thread);
+            many(x, call);
+            long more = threads.getThreadAllocatedBytes(thread) - before;
+            check.due("bytes made by 512 times call " + call + ": " + more * 32, made + more * 32 <= ROOM, true);
+        }
+    }
+
+    private static void many(RelayMouse x, int call) {
+        for (int i = 0; i < 8; i++) {
+            if (call == 1) {
+                Check.rules(x, Texts.GOOD_RULES[1]);
+                Check.rules(x, Texts.GOOD_RULES[3]);
+            } else if (call == 2) {
+                Check.net(x, Texts.GOOD_NETS[2]);
+                Check.net(x, Texts.GOOD_NETS[3]);
+                x.stick(1, 1);
+            } else {
+                call(x, call, 2, 3, 1);
+                call(x, call, 1, 1, 0);
+            }
+        }
     }
 }

@@ -34,6 +34,7 @@ public final class LimitsTest {
         test.seconds();
         test.shortRuns();
         test.smallSizes();
+        test.sizesInAnyRow();
         test.wallNumbers();
         test.sames();
         test.suspects();
@@ -760,6 +761,29 @@ public final class LimitsTest {
         due("on 3 by 2", x.held(3, 2, 0), 4);
         due("on 2 by 3", x.held(2, 3, 0), 4);
         due("on 3 by 3", x.held(3, 3, 0), 16);
+    }
+
+    /** HELD and LONGEST of each size, whichever was asked for ahead of it. */
+    private void sizesInAnyRow() {
+        RelayMouse x = new RelayMouse();
+        // Right, and down where it can't: held by the first wall of the last row, on its left.
+        Check.rules(x, "if mode 0 do right mode 1; if mode 1 not bump do go; if mode 1 do right mode 2;"
+            + "if mode 2 not bump do go left mode 1;");
+        int[][] sizes = {{2, 2}, {2, 3}, {3, 2}, {3, 3}, {3, 2}, {2, 3}, {2, 2}};
+        int[] walls = {2, 4, 4, 16, 4, 4, 2};
+        int[] squares = {2, 4, 3, 6, 3, 4, 2};
+        for (int i = 0; i < sizes.length; i++) {
+            String size = sizes[i][0] + " by " + sizes[i][1];
+            due("held: walls on " + size, x.held(sizes[i][0], sizes[i][1], 0), walls[i]);
+            due("held: square on " + size, x.held(sizes[i][0], sizes[i][1], 1), squares[i]);
+        }
+        // Straight down: from the last square of the first row.
+        Check.rules(x, "if mode 0 do back mode 1; do go;");
+        for (int[] size : sizes) {
+            due("longest: ticks on " + size[0] + " by " + size[1], x.longest(size[0], size[1], 0), size[1]);
+            due("longest: walls on " + size[0] + " by " + size[1], x.longest(size[0], size[1], 1), 0);
+            due("longest: square on " + size[0] + " by " + size[1], x.longest(size[0], size[1], 2), size[0] - 1);
+        }
     }
 
     /** Two relays of which one, if it is stuck held, turns at a wall alone: the wall ahead tells them apart. */

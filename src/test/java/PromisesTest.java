@@ -1124,8 +1124,10 @@ public final class PromisesTest {
         x.stick(1, 1);
         due("28 from none held: just b", x.suspects(5, 1), 2);
         Check.net(x, "relay a = bump; relay b = bump; keep = a; right = a or b;");
+        x.lift(0, 3);
         x.stick(0, 0);
         due("28 ways don't count", x.suspects(9, 0), 0);
+        due("28 ways don't count", x.suspects(1, 1), 0);
         Check.net(x, "relay a = bell; relay b = not bell; go = a; left = not b;");
         x.lift(3, 1);
         x.stick(0, 1);
